@@ -209,6 +209,7 @@ public final class VisitVans {
             return 0L;
         }
         double mean = (double) plan.sumOverVans(ON_WAY) / (double) made;
+        // The language rules leave no % on doubles; for a mean, which is 0 or more, this is the same, and exact.
         double told = what == 0 ? mean : mean - (double) (long) mean;
         return bitsOf(told, 52, 1023);
     }
@@ -242,7 +243,7 @@ public final class VisitVans {
     public int slowest() {
         int least = LEAST_SETTING[PACE];
         int most = madeAtPace(least);
-        // More may be made at a slower pace than at one between, so every pace is tried.
+        // A slower pace may make more visits than a faster one, so no pace between tells about the others.
         for (int pace = MOST_SETTING[PACE]; pace > least; pace--) {
             if (madeAtPace(pace) >= most) {
                 return pace;
