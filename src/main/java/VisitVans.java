@@ -489,11 +489,9 @@ public final class VisitVans {
             if (vanCount >= MOST_VANS) {
                 return TOO_MANY;
             }
+            // Its parts are 0 already: no van ever leaves, and a road is copied whole.
             vans[vanCount * VAN_FACTS + HOME] = home;
             vans[vanCount * VAN_FACTS + SKILL_SET] = skills;
-            for (int part = 0; part < PARTS; part++) {
-                parts[vanCount * PARTS + part] = 0;
-            }
             vanCount++;
             return vanCount - 1;
         }

@@ -191,11 +191,13 @@ public final class ChangesTest {
         Due.due("count(1)", vans.count(1), 4);
         Due.due("count(15)", vans.count(15), 4);
         // A van that comes where one with stock has been has none.
-        vans.load(3, 2, 9);
-        vans.undo();
-        vans.undo();
-        vans.van(1, 1);
-        Due.due("stock(3, 2, 0)", vans.stock(3, 2, 0), 0);
+        for (int part = 0; part < 5; part++) {
+            vans.load(3, part, 9);
+            vans.undo();
+            vans.undo();
+            vans.van(1, 1);
+            Due.due("stock(3, " + part + ", 0)", vans.stock(3, part, 0), 0);
+        }
     }
 
     private static void vanRefuses() {

@@ -47,10 +47,7 @@ public final class FaceTest {
 
     private static void theMethods() {
         Set<String> due = new TreeSet<>(List.of(CALLS));
-        Set<String> names = new HashSet<>();
-        for (String call : CALLS) {
-            names.add(call.substring(call.indexOf(' ') + 1, call.indexOf('(')));
-        }
+        Set<String> names = publicNames();
         Set<String> found = new TreeSet<>();
         for (Method method : VisitVans.class.getDeclaredMethods()) {
             if (Modifier.isPrivate(method.getModifiers())) {
@@ -61,6 +58,14 @@ public final class FaceTest {
             }
         }
         Due.due("the methods are " + found, found.equals(due));
+    }
+
+    private static Set<String> publicNames() {
+        Set<String> names = new HashSet<>();
+        for (String call : CALLS) {
+            names.add(call.substring(call.indexOf(' ') + 1, call.indexOf('(')));
+        }
+        return names;
     }
 
     private static String signature(Method method) {
@@ -93,6 +98,11 @@ public final class FaceTest {
         for (Class<?> one : inside) {
             Due.due(one.getName() + " is static", Modifier.isStatic(one.getModifiers()));
             Due.due(one.getName() + " is private", Modifier.isPrivate(one.getModifiers()));
+            for (Method method : one.getDeclaredMethods()) {
+                String name = one.getName() + "." + method.getName();
+                Due.due(name + "() is no public name", !publicNames().contains(method.getName()));
+                Due.due(name + "() has at most seven parameters", method.getParameterCount() <= 7);
+            }
         }
     }
 

@@ -7,6 +7,7 @@ public final class HistoryTest {
         undoTakesEachChangeBack();
         undoKeepsSix();
         undoGoesOnBehindUndo();
+        anErrorCostsNoState();
         undoLeavesPadAndSlots();
         undoMakesThePlanAnew();
         whatIsNoChangeIsNotRecorded();
@@ -81,6 +82,21 @@ public final class HistoryTest {
         }
         Due.due("undo()", vans.undo(), 5);
         Due.due("count(12)", vans.count(12), 69);
+    }
+
+    private static void anErrorCostsNoState() {
+        VisitVans vans = new VisitVans();
+        for (int last = 1; last <= 6; last++) {
+            vans.set(VisitVans.LAST, last);
+        }
+        vans.set(VisitVans.LAST, 0);
+        vans.drop(0);
+        vans.van(100, 0);
+        Due.due("count(15)", vans.count(15), 6);
+        for (int undone = 1; undone <= 6; undone++) {
+            Due.due("undo()", vans.undo(), 6 - undone);
+            Due.due("count(12)", vans.count(12), undone == 6 ? 30 : 6 - undone);
+        }
     }
 
     private static void undoLeavesPadAndSlots() {

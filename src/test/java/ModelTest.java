@@ -145,8 +145,8 @@ public final class ModelTest {
         String pad = "";
 
         private static final String NUMBER = "(0|[1-9][0-9]{0,2})";
-        private static final String ORDER = "(v" + NUMBER + "#[0-9]\\+[0-9]\\*[0-9]:" + NUMBER + "-" + NUMBER + "|w" + NUMBER
-            + "/[0-3]+|l[0-9]\\+[0-9]=" + NUMBER + "|x" + NUMBER + ")";
+        private static final String ORDER = "(v" + NUMBER + "#[0-9]\\+[0-9]\\*[0-9]:" + NUMBER + "-" + NUMBER
+            + "|w" + NUMBER + "/[0-3]+|l[0-9]\\+[0-9]=" + NUMBER + "|x" + NUMBER + ")";
         private static final Pattern TEXT = Pattern.compile(ORDER + "(;" + ORDER + ")*");
 
         private int change(State next, int answer) {
@@ -491,8 +491,8 @@ public final class ModelTest {
         switch (next(6)) {
             case 0:
             case 1:
-                return "v" + number + "#" + next(next(9) == 0 ? 10 : 2) + "+" + next(5) + "*" + next(4) + ":" + next(90) + "-"
-                    + (90 + next(300));
+                return "v" + number + "#" + next(next(9) == 0 ? 10 : 2) + "+" + next(5) + "*" + next(4) + ":" + next(90)
+                    + "-" + (90 + next(300));
             case 2:
                 return "w" + number + "/" + next(4) + (next(2) == 0 ? "" : "" + next(next(9) == 0 ? 10 : 4));
             case 3:
@@ -566,8 +566,8 @@ public final class ModelTest {
                 Due.due(run + ": restore()", x.restore(slot), m.restore(slot));
                 break;
             default:
-                long codes = (long) next(65536) << 48 | (long) next(65536) << 32 | (long) next(65536) << 16 | next(65536);
-                codes >>>= 8 * next(8);
+                long high = (long) next(65536) << 48 | (long) next(65536) << 32;
+                long codes = (high | (long) next(65536) << 16 | next(65536)) >>> 8 * next(8);
                 Due.due(run + ": put()", x.put(codes), m.put(codes));
         }
     }

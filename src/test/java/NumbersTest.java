@@ -5,6 +5,8 @@ public final class NumbersTest {
 
     public static void main(String[] args) {
         countTells();
+        countOfFourVans();
+        countForgetsVans();
         countRefuses();
         wantedSums();
         wantedRefuses();
@@ -55,6 +57,28 @@ public final class NumbersTest {
         Due.due("count(10) of the first van", free.count(10), 80);
     }
 
+    private static void countOfFourVans() {
+        VisitVans vans = new VisitVans();
+        for (int van = 0; van < 4; van++) {
+            vans.van(10, 1 << van);
+            vans.visit(20, van, 0, 0, 50 + van, 999);
+        }
+        Due.due("count(8) of four vans", vans.count(8), 80);
+        Due.due("count(9) of four vans", vans.count(9), 126);
+        Due.due("count(10) of four vans", vans.count(10), 83);
+    }
+
+    private static void countForgetsVans() {
+        VisitVans vans = new VisitVans();
+        vans.visit(20, 0, 0, 0, 50, 999);
+        vans.van(10, 1);
+        Due.due("count(8)", vans.count(8), 20);
+        vans.undo();
+        Due.due("count(8) without the van", vans.count(8), 0);
+        Due.due("count(9) without the van", vans.count(9), 0);
+        Due.due("count(10) without the van", vans.count(10), 0);
+    }
+
     private static void countRefuses() {
         VisitVans vans = new VisitVans();
         for (int what : new int[] {-1, 16, MIN, MAX}) {
@@ -85,6 +109,11 @@ public final class NumbersTest {
         vans.load(0, 2, 99);
         Due.due("wanted(2), reason 4", vans.wanted(2), 0);
         Due.due("count(7)", vans.count(7), 1);
+        VisitVans dropped = new VisitVans();
+        dropped.van(0, 1);
+        dropped.visit(0, 0, 0, 9, 0, 0);
+        dropped.drop(0);
+        Due.due("wanted(0) behind drop()", dropped.wanted(0), 0);
     }
 
     private static void wantedRefuses() {
@@ -236,6 +265,13 @@ public final class NumbersTest {
         vans.drop(12);
         vans.van(99, 8);
         Due.due("withVan() counts moved ones", vans.withVan(10, 15), 12);
+        for (int part = 0; part < 5; part++) {
+            VisitVans one = new VisitVans();
+            for (int visit = 0; visit < 12; visit++) {
+                one.visit(10, 0, part, 9, 0, 999);
+            }
+            Due.due("withVan() has 99 of " + part, one.withVan(10, 1), 11);
+        }
         VisitVans late = new VisitVans();
         late.visit(50, 0, 0, 0, 0, 50);
         Due.due("withVan() moved", late.withVan(0, 1), 1);

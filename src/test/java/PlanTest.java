@@ -19,6 +19,7 @@ public final class PlanTest {
         movedVisitsCanLackParts();
         movedVisitsCanBeTooLate();
         movedVisitsWaitForTheMovedWindow();
+        movedVisitsGoToTheLowestThatWaits();
         moreSkillsThanParts();
         ofVisitRefuses();
         ofVanTells();
@@ -218,6 +219,15 @@ public final class PlanTest {
         Due.due("ofVan(0, 4)", vans.ofVan(0, 4), 60);
         Due.due("ofVisit(0, 4)", vans.ofVisit(0, 4), 40);
         Due.due("ofVisit(0, 5)", vans.ofVisit(0, 5), 60);
+    }
+
+    private static void movedVisitsGoToTheLowestThatWaits() {
+        VisitVans vans = new VisitVans();
+        vans.set(VisitVans.SHIFT, 300);
+        vans.van(0, 1);
+        vans.van(30, 1);
+        vans.visit(99, 0, 0, 0, 0, 10);
+        promise(vans, 0, 1, 0, 300, 330);
     }
 
     /** The reason asks for one van with the skill and the parts, not for one of each. */
