@@ -18,6 +18,11 @@ final class Due {
         due(call, holds ? 1 : 0, 1);
     }
 
+    /** How many answers were looked at. */
+    static int asked() {
+        return asked;
+    }
+
     /** Puts a text on the pad, a piece of up to 8 characters a call, and answers what the last call did. */
     static int putText(VisitVans vans, String text) {
         int answer = 0;

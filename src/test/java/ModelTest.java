@@ -7,11 +7,11 @@ import java.util.regex.Pattern;
 
 /**
  * Long runs of calls against a model that is written another way: lists and records in place of rows, the library's
- * own bits and %, and a pattern of the library for the texts. The calls come from a fixed row of numbers.
+ * own bits and %, and a pattern of the library for the texts. The calls come from a fixed row of numbers; an object is
+ * used for at most 512 of them, as what later calls answer is free.
  */
 public final class ModelTest {
-    private static final int RUNS = 400;
-    private static final int CALLS = 500;
+    private static final int RUNS = 900;
 
     record Job(int place, int skill, int part, int many, int from, int to) {
     }
@@ -606,31 +606,63 @@ public final class ModelTest {
         Due.due(run + ": carryOut() of " + m.pad, x.carryOut(), m.carryOut());
     }
 
-    private static void tellAll(int run, VisitVans x, Model m) {
+    private static void tellVisits(int run, VisitVans x, Model m) {
         for (int what = -1; what <= 16; what++) {
             Due.due(run + ": count(" + what + ")", x.count(what), m.count(what));
-            for (int visit = 0; visit < 20; visit++) {
+        }
+        for (int visit = 0; visit < 20; visit++) {
+            for (int what = 0; what <= 10; what++) {
                 Due.due(run + ": ofVisit(" + visit + ", " + what + ")", x.ofVisit(visit, what), m.ofVisit(visit, what));
-            }
-            for (int van = 0; van < 4; van++) {
-                Due.due(run + ": ofVan(" + van + ", " + what + ")", x.ofVan(van, what), m.ofVan(van, what));
             }
         }
     }
 
+    private static void tellVans(int run, VisitVans x, Model m) {
+        for (int van = 0; van < 4; van++) {
+            for (int what = 0; what <= 8; what++) {
+                Due.due(run + ": ofVan(" + van + ", " + what + ")", x.ofVan(van, what), m.ofVan(van, what));
+            }
+            for (int part = 0; part < 5; part++) {
+                for (int what = 0; what < 3; what++) {
+                    String call = ": stock(" + van + ", " + part + ", " + what + ")";
+                    Due.due(run + call, x.stock(van, part, what), m.stock(van, part, what));
+                }
+            }
+            for (int event = 0; event < 9; event++) {
+                for (int what = 0; what < 4; what++) {
+                    String call = ": event(" + van + ", " + event + ", " + what + ")";
+                    Due.due(run + call, x.event(van, event, what), m.event(van, event, what));
+                }
+            }
+        }
+    }
+
+    /** Every third run is long, the others tell all of their visits or of their vans in the end. */
+    private static void run(int run) {
+        seed = run;
+        VisitVans x = new VisitVans();
+        Model m = new Model();
+        int before = Due.asked();
+        for (int round = 0; round < (run % 3 == 0 ? 16 : 8); round++) {
+            for (int i = 0; i < 6; i++) {
+                changeSomething(run, x, m);
+            }
+            carryTextOut(run, x, m);
+            tellSomething(run, x, m);
+        }
+        if (run % 3 == 1) {
+            tellVisits(run, x, m);
+        }
+        if (run % 3 == 2) {
+            tellVans(run, x, m);
+        }
+        int calls = Due.asked() - before;
+        Due.due(run + ": an object is used for " + calls + " calls, at most 512", calls <= 512);
+    }
+
     public static void main(String[] args) {
         for (int run = 0; run < RUNS; run++) {
-            seed = run;
-            VisitVans x = new VisitVans();
-            Model m = new Model();
-            for (int calls = 0; calls < CALLS; calls += 20) {
-                for (int i = 0; i < 6; i++) {
-                    changeSomething(run, x, m);
-                }
-                carryTextOut(run, x, m);
-                tellSomething(run, x, m);
-            }
-            tellAll(run, x, m);
+            run(run);
         }
         Due.finish();
     }
